@@ -6,6 +6,7 @@ public final class FreeTest {
         promise25FreePort();
         promise26FreeStrand();
         promise26FreeStrandOfSeveralTrunks();
+        promise26FreeStrandOfPanelsOfTwoSizes();
         promise26FreeStrandThrows();
         promise27Used();
         promise28CanCarryOut();
@@ -74,6 +75,20 @@ public final class FreeTest {
         CHECK.due("26 not by way of a third", book.freeStrand(1, 2), -1);
         book.plug(1, 8, 1);
         CHECK.due("26 both strands of a trunk taken", book.freeStrand(0, 1), 3);
+    }
+
+    private static void promise26FreeStrandOfPanelsOfTwoSizes() {
+        CableBook book = new CableBook();
+        book.addPanel(0, 12);
+        book.addPanel(0, 1);
+        book.addPanel(0, 3);
+        book.addTrunk(11, 12, 1, 9);
+        book.addTrunk(15, 10, 1, 9);
+        CHECK.due("26 the last port of a panel", book.freeStrand(0, 1), 11);
+        CHECK.due("26 the only port of a panel", book.freeStrand(1, 0), 12);
+        CHECK.due("26 the last but one", book.freeStrand(0, 2), 10);
+        CHECK.due("26 the last port of the last panel", book.freeStrand(2, 0), 15);
+        CHECK.due("26 two small panels", book.freeStrand(1, 2), -1);
     }
 
     private static void promise26FreeStrandThrows() {

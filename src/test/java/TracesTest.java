@@ -172,6 +172,16 @@ public final class TracesTest {
         dueJoined("behind a broken strand, backwards", brokenRow(), 5, 1, false);
         dueJoined("before a broken strand", brokenRow(), 3, 1, true);
         dueJoined("ends of a broken strand", brokenRow(), 1, 9, false);
+        CableBook asked = row();
+        dueJoined("asked before: joined", asked, 3, 5, true);
+        dueJoined("asked before: two lines", asked, 0, 5, false);
+        CHECK.due("asked for the lines", asked.lines(), 5);
+        dueJoined("asked before: two ports alone", asked, 6, 7, false);
+        dueJoined("asked before: joined still", asked, 8, 0, true);
+        asked.plug(0, 6, 1);
+        dueJoined("joined since", asked, 8, 6, true);
+        asked.pull(6);
+        dueJoined("parted since", asked, 6, 8, false);
         for (int wrong : new int[] {-1, 12, Integer.MAX_VALUE, Integer.MIN_VALUE}) {
             CHECK.thrown("22 a " + wrong, Check.INDEX, TracesTest::row, b -> b.areJoined(wrong, 0));
             CHECK.thrown("22 b " + wrong, Check.INDEX, TracesTest::row, b -> b.areJoined(0, wrong));
