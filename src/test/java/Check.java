@@ -7,6 +7,8 @@ final class Check {
     static final Class<IllegalArgumentException> ARGUMENT = IllegalArgumentException.class;
     static final Class<IllegalStateException> STATE = IllegalStateException.class;
 
+    private static final int MOST_PORTS_READ = 60;
+
     private int wrong = 0;
 
     void due(String what, Object got, Object want) {
@@ -16,19 +18,32 @@ final class Check {
         }
     }
 
-    /**
-     * The call throws that very exception, and the book that it was made on reads
-     * like a twin on which it was not made (twins, since a book has 512 calls only).
-     */
+    /** The call throws that very exception, and changes nothing. */
     void thrown(String what, Class<? extends RuntimeException> want,
             Supplier<CableBook> setUp, Consumer<CableBook> call) {
         CableBook book = setUp.get();
         due(what + " throws", outcome(() -> call.accept(book)), want.getSimpleName());
+        unchanged(what, setUp, call);
+    }
+
+    /**
+     * The book that the call was made on, whether it threw or not, reads like a twin on which
+     * it was not made (twins, since a book has 512 calls only).
+     */
+    void unchanged(String what, Supplier<CableBook> setUp, Consumer<CableBook> call) {
+        CableBook book = setUp.get();
+        due(what + ": the room is small enough to be read in 512 calls", book.ports() <= MOST_PORTS_READ, true);
+        outcome(() -> call.accept(book));
         due(what + " changed", contents(book), contents(setUp.get()));
 
         CableBook other = setUp.get();
         outcome(() -> call.accept(other));
         due(what + " changed the plan or a trace", behaviour(other), behaviour(setUp.get()));
+    }
+
+    /** Numbers too small and too large by one, by much, and by so much that sums with them wrap around. */
+    static int[] outside(int least, int most) {
+        return new int[] {least - 1, most + 1, -1 - most, most + 65536, Integer.MIN_VALUE, Integer.MAX_VALUE};
     }
 
     static String outcome(Runnable call) {
@@ -44,11 +59,13 @@ final class Check {
         StringBuilder text = new StringBuilder();
         text.append(book.ports()).append(' ').append(book.trunks()).append(' ').append(book.cables())
                 .append(' ').append(book.cableLength()).append(' ').append(book.lines());
-        for (int port = 0; port < book.ports(); port++) {
+        int ports = book.ports();
+        for (int port = 0; port < ports; port++) {
             text.append(" | ").append(book.panelOf(port)).append(' ').append(book.byCable(port))
                     .append(' ').append(book.byStrand(port)).append(' ').append(book.colour(port));
         }
-        for (int trunk = 0; trunk < book.trunks(); trunk++) {
+        int trunks = book.trunks();
+        for (int trunk = 0; trunk < trunks; trunk++) {
             text.append(" & ").append(book.used(trunk));
         }
         return text.toString();
